@@ -122,6 +122,11 @@ public final class DeedTest {
     CHECK.due("13: 1 + 1/2 + 1/3 + 1/4 + 1/5, below", 60, x.owes(0, 1));
     CHECK.due("13: 1/4 + 1/5, above", 9, x.owes(3, 0));
     CHECK.due("13: 1/4 + 1/5, below", 20, x.owes(3, 1));
+    x.free(3, 1);
+    x.free(0, 0);
+    x.free(3, 0);
+    CHECK.due("13: 1/2 + 1/3 + 1/5, above", 31, x.owes(0, 0));
+    CHECK.due("13: 1/2 + 1/3 + 1/5, below", 30, x.owes(0, 1));
     LentQuill most = Check.townOf("p1,p1;1");
     for (int i = 0; i < 6; i++) {
       most.sign(0, 9);

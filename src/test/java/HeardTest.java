@@ -171,6 +171,7 @@ public final class HeardTest {
     fairs(one, 2, 2, 0, 1109335178);
     LentQuill two = Check.townOf("y1,p1;2");
     fairs(two, 2, 1, 0, 1109335178);
+    CHECK.due("20: all three draws are made, though nobody is bound", 654583775, two.fairs(1, 0, 2));
   }
 
   private static void refusalsOfFairs() {

@@ -9,6 +9,7 @@ public final class WholeTest {
     counts();
     digestOfNothing();
     digestOfATown();
+    digestLooksTwoLendingsAhead();
     CHECK.end();
   }
 
@@ -39,6 +40,7 @@ public final class WholeTest {
     CHECK.due("22: again from the same image", 1, x.restore());
     CHECK.due("22: bound again", 3, x.deed(0, 1));
     CHECK.due("22: heard again", 1, x.count(5));
+    CHECK.due("22: and it holds again", 0, x.hands(2, 0, 0));
   }
 
   private static void theLatestImage() {
@@ -76,11 +78,14 @@ public final class WholeTest {
     Check.lendAll(x, 1, 2);
     x.sign(2, 1);
     x.sign(0, 1);
+    x.sign(0, 2);
     x.free(0, 2);
     x.hear(0, true);
+    x.hear(1, true);
     x.way(0, 0, 0);
+    x.way(0, 7, 0);
     Check.write(x, "p1,?");
-    int[] all = {3, 4, 3, 2, 1, 1, 4, 1, 1};
+    int[] all = {3, 4, 3, 3, 1, 2, 4, 1, 2};
     for (int what = 0; what < all.length; what++) {
       CHECK.due("23: count(" + what + ")", all[what], x.count(what));
     }
@@ -130,5 +135,18 @@ public final class WholeTest {
     h = mixed(h, 0, 0);
     h = mixed(h, 2, 1, 0, 0, 0, 0, 0, 1, 0);
     CHECK.due("24: two people", h, two.digest());
+  }
+
+  /* Of so many times 2 is told: for each pen 9 ways, not 3 or 27. */
+  private static void digestLooksTwoLendingsAhead() {
+    LentQuill x = Check.townOf("p1,p1,p1,p1;2");
+    long h = 967;
+    int[] asked = {1, 0, 0, 0};
+    for (int i = 0; i < 4; i++) {
+      h = mixed(h, 0, 1, i, 1 << i, 1, 0, 0, 1, 9, 15, asked[i]);
+    }
+    h = mixed(h, 0, 0);
+    h = mixed(h, 4, 2, 0, 0, 0, 0, 0, 1, 0);
+    CHECK.due("24: four people", h, x.digest());
   }
 }
