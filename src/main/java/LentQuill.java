@@ -182,8 +182,7 @@ public final class LentQuill {
       return OUTSIDE;
     }
     int owed = books.partsOwedBy(person);
-    int common = commonWithParts(owed);
-    return what == 0 ? owed / common : PARTS / common;
+    return lowest(what == 0 ? owed : PARTS, owed);
   }
 
   // ---- what would be
@@ -351,14 +350,14 @@ public final class LentQuill {
     return (bits >> person & 1) == 1;
   }
 
-  /** The greatest number that divides both this one and PARTS; at least 1. */
-  private static int commonWithParts(int number) {
+  /** One term of the fraction "owed of PARTS", divided by the most that divides both terms. */
+  private static int lowest(int term, int owed) {
     for (int divisor = PARTS; divisor > 1; divisor--) {
-      if (number % divisor == 0 && PARTS % divisor == 0) {
-        return divisor;
+      if (owed % divisor == 0 && PARTS % divisor == 0) {
+        return term / divisor;
       }
     }
-    return 1;
+    return term;
   }
 
   /** What one of those who are bound owes of a debt, in PARTS; 0 where nobody is bound. */
