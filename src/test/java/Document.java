@@ -11,8 +11,8 @@ final class Document {
   }
 
   /** What a promise says behind the call that it is about. */
-  static String promise(String heading) {
-    String section = between("## " + heading, "\n## ");
+  static String promise(int number) {
+    String section = between("## Promise " + number + ":", "\n## ");
     return oneLine(section.substring(section.indexOf("`: ") + 3));
   }
 

@@ -15,15 +15,15 @@ final class Promise {
 
   private static final String TERMS = Document.terms();
 
-  private final String heading;
+  private final int number;
   private final Words own;
   private final Check check = new Check();
   private final Set<String> broken = new TreeSet<>();
   private String words = "";
 
-  Promise(String heading) {
-    this.heading = heading;
-    own = new Words(Document.promise(heading));
+  Promise(int number) {
+    this.number = number;
+    own = new Words(Document.promise(number));
   }
 
   /** The answers that follow are due by these words, of the promise itself or of the terms. */
@@ -34,7 +34,7 @@ final class Promise {
   }
 
   void due(String call, long want, long got) {
-    if (!check.due(heading + ", \"" + words + "\": " + call, want, got)) {
+    if (!check.due(number + ", \"" + words + "\": " + call, want, got)) {
       broken.add(words);
     }
   }

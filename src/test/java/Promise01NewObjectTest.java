@@ -1,6 +1,6 @@
 public final class Promise01NewObjectTest {
   public static void main(String[] args) {
-    Promise promise = new Promise("Promise 1: A new object");
+    Promise promise = new Promise(1);
     hold(promise);
     promise.end();
   }

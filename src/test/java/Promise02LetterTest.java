@@ -1,6 +1,6 @@
 public final class Promise02LetterTest {
   public static void main(String[] args) {
-    Promise promise = new Promise("Promise 2: letter");
+    Promise promise = new Promise(2);
     hold(promise);
     promise.end();
   }

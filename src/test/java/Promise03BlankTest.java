@@ -1,6 +1,6 @@
 public final class Promise03BlankTest {
   public static void main(String[] args) {
-    Promise promise = new Promise("Promise 3: blank");
+    Promise promise = new Promise(3);
     hold(promise);
     promise.end();
   }

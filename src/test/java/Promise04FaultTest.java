@@ -1,6 +1,6 @@
 public final class Promise04FaultTest {
   public static void main(String[] args) {
-    Promise promise = new Promise("Promise 4: fault");
+    Promise promise = new Promise(4);
     hold(promise);
     promise.end();
   }

@@ -1,6 +1,6 @@
 public final class Promise05TownTest {
   public static void main(String[] args) {
-    Promise promise = new Promise("Promise 5: town");
+    Promise promise = new Promise(5);
     hold(promise);
     promise.end();
   }
@@ -10,9 +10,9 @@ public final class Promise05TownTest {
     kindsWorthsAndLimits(promise);
     pageIsEmptyThen(promise);
     pagesThatAreNone(promise);
-    refusedKeepsAll(promise);
     allThatWasIsGone(promise);
     smallerTown(promise);
+    refusedKeepsAll(promise);
   }
 
   private static void twoToFivePeople(Promise promise) {
@@ -82,16 +82,6 @@ public final class Promise05TownTest {
     promise.due("towns read", 0, x.count(7));
   }
 
-  private static void refusedKeepsAll(Promise promise) {
-    promise.says("they change nothing");
-    promise.refused("town() of a beginning", LentQuill.STATE, LentQuill::town);
-    promise.refused("town() of an empty page", LentQuill.STATE, () -> {
-      LentQuill x = Towns.busy();
-      x.blank();
-      return x;
-    }, LentQuill::town);
-  }
-
   private static void allThatWasIsGone(Promise promise) {
     promise.says("(another one is gone, with all that was)");
     LentQuill x = Towns.of("p1,t1,y1;2");
@@ -127,5 +117,15 @@ public final class Promise05TownTest {
     promise.due("to him", LentQuill.UNKNOWN, x.lend(0, 2));
     promise.due("his bit", LentQuill.OUTSIDE, x.way(0, 4, 0));
     promise.due("ways to lend", 1, x.hands(0, 4, 0));
+  }
+
+  private static void refusedKeepsAll(Promise promise) {
+    promise.says("they change nothing");
+    promise.refused("town() of a beginning", LentQuill.STATE, LentQuill::town);
+    promise.refused("town() of an empty page", LentQuill.STATE, () -> {
+      LentQuill x = Towns.busy();
+      x.blank();
+      return x;
+    }, LentQuill::town);
   }
 }

@@ -1,6 +1,6 @@
 public final class Promise06AboutTest {
   public static void main(String[] args) {
-    Promise promise = new Promise("Promise 6: about");
+    Promise promise = new Promise(6);
     hold(promise);
     promise.end();
   }
@@ -21,6 +21,9 @@ public final class Promise06AboutTest {
 
   private static void kinds(Promise promise) {
     promise.says("Of one: what = 0 KIND");
+    LentQuill two = Towns.of("a5,y1;3");
+    promise.due("an abbot's", 4, two.about(0, 0));
+    promise.due("a boy's", 3, two.about(1, 0));
     promise.says("KINDS are told by the letter: 0 PERSON \"p\", 1 BISHOP \"b\", 2 THIEF \"t\", 3 BOY \"y\", 4 ABBOT \"a\".");
     LentQuill x = Towns.of("p1,b2,t3,y4,a5;3");
     for (int i = 0; i < 5; i++) {

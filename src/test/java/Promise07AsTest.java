@@ -1,6 +1,6 @@
 public final class Promise07AsTest {
   public static void main(String[] args) {
-    Promise promise = new Promise("Promise 7: as");
+    Promise promise = new Promise(7);
     hold(promise);
     promise.end();
   }

@@ -2,7 +2,7 @@ public final class Promise08LendTest {
   private static final int[] NOBODY = {-1, 5, Integer.MIN_VALUE, Integer.MAX_VALUE};
 
   public static void main(String[] args) {
-    Promise promise = new Promise("Promise 8: lend");
+    Promise promise = new Promise(8);
     hold(promise);
     promise.end();
   }

@@ -1,6 +1,6 @@
 public final class Promise09HadTest {
   public static void main(String[] args) {
-    Promise promise = new Promise("Promise 9: had");
+    Promise promise = new Promise(9);
     hold(promise);
     promise.end();
   }

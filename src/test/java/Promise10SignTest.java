@@ -1,6 +1,6 @@
 public final class Promise10SignTest {
   public static void main(String[] args) {
-    Promise promise = new Promise("Promise 10: sign");
+    Promise promise = new Promise(10);
     hold(promise);
     promise.end();
   }

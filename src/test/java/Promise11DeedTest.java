@@ -1,6 +1,6 @@
 public final class Promise11DeedTest {
   public static void main(String[] args) {
-    Promise promise = new Promise("Promise 11: deed");
+    Promise promise = new Promise(11);
     hold(promise);
     promise.end();
   }

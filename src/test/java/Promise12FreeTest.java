@@ -1,6 +1,6 @@
 public final class Promise12FreeTest {
   public static void main(String[] args) {
-    Promise promise = new Promise("Promise 12: free");
+    Promise promise = new Promise(12);
     hold(promise);
     promise.end();
   }

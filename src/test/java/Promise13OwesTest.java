@@ -1,6 +1,6 @@
 public final class Promise13OwesTest {
   public static void main(String[] args) {
-    Promise promise = new Promise("Promise 13: owes");
+    Promise promise = new Promise(13);
     hold(promise);
     promise.end();
   }

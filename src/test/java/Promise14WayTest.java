@@ -3,7 +3,7 @@ public final class Promise14WayTest {
   private static final String FIVE = "p1,p1,p1,p1,p1;5";
 
   public static void main(String[] args) {
-    Promise promise = new Promise("Promise 14: way");
+    Promise promise = new Promise(14);
     hold(promise);
     promise.end();
   }

@@ -1,6 +1,6 @@
 public final class Promise15FindTest {
   public static void main(String[] args) {
-    Promise promise = new Promise("Promise 15: find");
+    Promise promise = new Promise(15);
     hold(promise);
     promise.end();
   }

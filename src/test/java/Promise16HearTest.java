@@ -1,6 +1,6 @@
 public final class Promise16HearTest {
   public static void main(String[] args) {
-    Promise promise = new Promise("Promise 16: hear");
+    Promise promise = new Promise(16);
     hold(promise);
     promise.end();
   }

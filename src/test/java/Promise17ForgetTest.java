@@ -1,6 +1,6 @@
 public final class Promise17ForgetTest {
   public static void main(String[] args) {
-    Promise promise = new Promise("Promise 17: forget");
+    Promise promise = new Promise(17);
     hold(promise);
     promise.end();
   }

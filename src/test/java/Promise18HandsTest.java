@@ -2,7 +2,7 @@ public final class Promise18HandsTest {
   private static final String FIVE = "p1,p1,p1,p1,p1;5";
 
   public static void main(String[] args) {
-    Promise promise = new Promise("Promise 18: hands");
+    Promise promise = new Promise(18);
     hold(promise);
     promise.end();
   }

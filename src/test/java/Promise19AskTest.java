@@ -1,6 +1,6 @@
 public final class Promise19AskTest {
   public static void main(String[] args) {
-    Promise promise = new Promise("Promise 19: ask");
+    Promise promise = new Promise(19);
     hold(promise);
     promise.end();
   }

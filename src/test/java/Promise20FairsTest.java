@@ -11,7 +11,7 @@ public final class Promise20FairsTest {
   private static final int TWICE = 1109335178;
 
   public static void main(String[] args) {
-    Promise promise = new Promise("Promise 20: fairs");
+    Promise promise = new Promise(20);
     hold(promise);
     promise.end();
   }
@@ -106,14 +106,23 @@ public final class Promise20FairsTest {
     return parts;
   }
 
+  /** So many people, who has a pen being alone bound by it; each has his pen back. */
+  private static LentQuill wornAlone(int people, int lent) {
+    LentQuill x = Towns.of("p1,".repeat(people - 1) + "p1;1");
+    for (int pen = 0; pen < people; pen++) {
+      Towns.lendToAndFro(x, pen, (pen + 1) % people, lent);
+    }
+    return x;
+  }
+
   private static void drawsOfHowManyThereAre(Promise promise) {
     promise.says("so many times a PEN by a DRAW of how many there are is LENT to one by a DRAW of how many there are");
-    String[] towns = {"p1,p1;1", "p1,p1,p1;1", "p1,p1,p1,p1;1", "p1,p1,p1,p1,p1;1"};
     for (int seed : new int[] {0, 7, Integer.MAX_VALUE}) {
       for (int people = 2; people <= 5; people++) {
         promise.due(people + " people, seed " + seed,
-            owedAlone(people, 40, BigInteger.valueOf(seed)),
-            Towns.of(towns[people - 2]).fairs(60, seed, 1));
+            owedAlone(people, 40, BigInteger.valueOf(seed)), wornAlone(people, 0).fairs(60, seed, 1));
+        promise.due(people + " people, worn pens, seed " + seed,
+            owedAlone(people, 4, BigInteger.valueOf(seed)), wornAlone(people, 36).fairs(60, seed, 1));
       }
     }
     promise.says("then that by 65536 (rounded down), its rest.");
@@ -137,11 +146,8 @@ public final class Promise20FairsTest {
     fairs(promise, Towns.worn("p1,p1;1", 1, 0, 38), 2, 0, 960);
     fairs(promise, Towns.worn("p1,p1;1", 1, 0, 40), 2, 0, 480);
     for (int lent = 30; lent <= 40; lent += 2) {
-      LentQuill x = Towns.worn("p1,p1,p1;1", 0, 1, lent);
-      Towns.lendToAndFro(x, 1, 2, lent);
-      Towns.lendToAndFro(x, 2, 0, lent);
       promise.due("lent " + lent + " times, the others in the fairs themselves",
-          owedAlone(3, 40 - lent, BigInteger.TEN), x.fairs(60, 10, 1));
+          owedAlone(3, 40 - lent, BigInteger.TEN), wornAlone(3, lent).fairs(60, 10, 1));
     }
   }
 

@@ -1,6 +1,6 @@
 public final class Promise21ImageTest {
   public static void main(String[] args) {
-    Promise promise = new Promise("Promise 21: image");
+    Promise promise = new Promise(21);
     hold(promise);
     promise.end();
   }

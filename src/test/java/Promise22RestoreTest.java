@@ -1,14 +1,14 @@
 public final class Promise22RestoreTest {
   public static void main(String[] args) {
-    Promise promise = new Promise("Promise 22: restore");
+    Promise promise = new Promise(22);
     hold(promise);
     promise.end();
   }
 
   static void hold(Promise promise) {
     howOftenLent(promise);
-    goesOnFromTheImage(promise);
     fullBooksGoOn(promise);
+    goesOnFromTheImage(promise);
     notOfTheImage(promise);
     noneKept(promise);
     anotherTown(promise);

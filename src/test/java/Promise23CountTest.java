@@ -1,6 +1,6 @@
 public final class Promise23CountTest {
   public static void main(String[] args) {
-    Promise promise = new Promise("Promise 23: count");
+    Promise promise = new Promise(23);
     hold(promise);
     promise.end();
   }

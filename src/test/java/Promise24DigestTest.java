@@ -2,7 +2,7 @@ import java.math.BigInteger;
 
 public final class Promise24DigestTest {
   public static void main(String[] args) {
-    Promise promise = new Promise("Promise 24: digest");
+    Promise promise = new Promise(24);
     hold(promise);
     promise.end();
   }
@@ -20,6 +20,8 @@ public final class Promise24DigestTest {
   private static void nothing(Promise promise) {
     promise.says("h is 967, then for each of these numbers, in order, 31 times h, and it");
     promise.due("nothing", Whole.mixed(967, 0, 0, 0, 0, 0, 0, 0, 0, 0), new LentQuill().digest());
+    LentQuill page = Towns.written("pb");
+    promise.due("two", Whole.mixed(967, 'p', 'b', 0, 0, 0, 0, 0, 0, 2, 0, 0), page.digest());
     promise.says("with a TOWN what find() tells for 0 and 1");
     LentQuill x = Towns.written("p1,p1;1");
     long letters = Whole.mixed(967, 'p', '1', ',', 'p', '1', ';', '1');
@@ -50,8 +52,6 @@ public final class Promise24DigestTest {
   }
 
   private static void numbersInOrder(Promise promise) {
-    promise.says("of each one what about() tells for 0 to 5, what owes() tells for 0 and 1");
-    promise.says("of each DEED what deed() tells for 0 to 2");
     LentQuill x = Towns.of("p3,a2;2");
     Towns.lend(x, 0, 1);
     Towns.sign(x, 0, 5);
@@ -71,7 +71,10 @@ public final class Promise24DigestTest {
     h = Whole.mixed(h, 1, 1);
     h = Whole.mixed(h, 'a');
     h = Whole.mixed(h, 2, 2, 1, 2, 1, 1, 1, 1, 1);
-    promise.due("a town with deeds", h, x.digest());
+    promise.says("of each one what about() tells for 0 to 5, what owes() tells for 0 and 1");
+    promise.due("two who owe", h, x.digest());
+    promise.says("of each DEED what deed() tells for 0 to 2");
+    promise.due("a deed, and a void one", h, x.digest());
   }
 
   private static void twoLendingsAhead(Promise promise) {
@@ -105,6 +108,9 @@ public final class Promise24DigestTest {
     promise.says("in order");
     LentQuill x = Towns.busy();
     promise.due("the same again", x.digest(), x.digest());
+    promise.due("heard", 2, x.count(5));
+    promise.due("lent", 5, x.count(2));
+    promise.due("letters", 3, x.count(6));
     promise.due("all stays", 1, Whole.of(x).equals(Whole.of(Towns.busy())) ? 1 : 0);
   }
 }
