@@ -10,6 +10,7 @@ public final class Promise13OwesTest {
     sameShares(promise);
     allSharesTogether(promise);
     lowestTerms(promise);
+    allThatDividesBoth(promise);
     refusals(promise);
   }
 
@@ -79,6 +80,35 @@ public final class Promise13OwesTest {
     Towns.free(x, 1, 0);
     owes(promise, x, 3, 29, 12);
     owes(promise, x, 0, 7, 4);
+  }
+
+  /** What 0 owes of debts of 1, each with so many sharers; these numbers do not fall. */
+  private static void owesOf(Promise promise, int above, int below, int... sharers) {
+    LentQuill x = Towns.of("p1,p1,p1,p1,p1;5");
+    int bound = 1;
+    for (int each : sharers) {
+      for (; bound < each; bound++) {
+        Towns.lend(x, 0, bound);
+      }
+      Towns.sign(x, 0, 1);
+    }
+    owes(promise, x, 0, above, below);
+  }
+
+  private static void allThatDividesBoth(Promise promise) {
+    promise.says("in lowest terms");
+    owesOf(promise, 77, 60, 2, 3, 4, 5);
+    owesOf(promise, 31, 30, 2, 3, 5);
+    owesOf(promise, 9, 20, 4, 5);
+    owesOf(promise, 8, 15, 3, 5);
+    owesOf(promise, 7, 12, 3, 4);
+    owesOf(promise, 7, 10, 2, 5);
+    owesOf(promise, 5, 6, 2, 3);
+    owesOf(promise, 1, 5, 5);
+    owesOf(promise, 3, 4, 2, 4);
+    owesOf(promise, 1, 3, 3);
+    owesOf(promise, 1, 2, 2);
+    owesOf(promise, 1, 1, 2, 2);
   }
 
   private static void refusals(Promise promise) {

@@ -8,6 +8,7 @@ public final class Promise16HearTest {
   static void hold(Promise promise) {
     howMuchIs(promise);
     boundOrNot(promise);
+    heardTwice(promise);
     sixAtMost(promise);
     refusals(promise);
   }
@@ -33,6 +34,18 @@ public final class Promise16HearTest {
         promise.due("not bound, pen " + pen, pen == person ? 0 : 1, isNot.hands(pen, 0, 0));
       }
     }
+  }
+
+  private static void heardTwice(Promise promise) {
+    promise.says("that one is BOUND by a PEN of which it is not known to whom it was LENT, or is not.");
+    LentQuill x = Towns.of("p1,p1;1");
+    x.hear(0, true);
+    x.hear(0, true);
+    promise.due("bound, heard twice", 0, x.hands(1, 0, 0));
+    x.forget();
+    x.hear(0, false);
+    x.hear(0, false);
+    promise.due("not bound, heard twice", 0, x.hands(0, 0, 0));
   }
 
   private static LentQuill sixHeard() {

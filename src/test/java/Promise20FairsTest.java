@@ -30,9 +30,11 @@ public final class Promise20FairsTest {
   }
 
   private static void fairs(Promise promise, LentQuill x, int times, int nobody, int parts) {
-    promise.due("fairs(" + times + ", 0, 0)", nobody, x.fairs(times, 0, 0));
-    promise.due("fairs(" + times + ", 0, 1)", parts, x.fairs(times, 0, 1));
-    promise.due("fairs(" + times + ", 0, 2)", times == 1 ? ONCE : TWICE, x.fairs(times, 0, 2));
+    for (int again = 0; again < 2; again++) {
+      promise.due("fairs(" + times + ", 0, 0)", nobody, x.fairs(times, 0, 0));
+      promise.due("fairs(" + times + ", 0, 1)", parts, x.fairs(times, 0, 1));
+      promise.due("fairs(" + times + ", 0, 2)", times == 1 ? ONCE : TWICE, x.fairs(times, 0, 2));
+    }
   }
 
   private static BigInteger next(BigInteger seed) {

@@ -26,6 +26,13 @@ public final class Promise24DigestTest {
     LentQuill x = Towns.written("p1,p1;1");
     long letters = Whole.mixed(967, 'p', '1', ',', 'p', '1', ';', '1');
     promise.due("no town yet", Whole.mixed(letters, 0, 0, 0, 0, 0, 0, 7, 0, 0), x.digest());
+    LentQuill found = Towns.of("p1,p1;1");
+    Towns.sign(found, 1, 1);
+    long h = Whole.mixed(967, 0, 1, 0, 1, 1, 0, 0, 1, 1, 1, 0);
+    h = Whole.mixed(h, 0, 1, 1, 2, 1, 1, 1, 1, 1, 2, 0);
+    h = Whole.mixed(h, 1, 2, 1);
+    h = Whole.mixed(h, 1, 2);
+    promise.due("one to find, 1", Whole.mixed(h, 2, 1, 0, 1, 0, 0, 0, 1, 0), found.digest());
   }
 
   private static void lettersOfThePage(Promise promise) {
@@ -88,6 +95,13 @@ public final class Promise24DigestTest {
     h = Whole.mixed(h, 0, 0);
     h = Whole.mixed(h, 4, 2, 0, 0, 0, 0, 0, 1, 0);
     promise.due("nine ways for each pen", h, x.digest());
+    h = 967;
+    for (int i = 0; i < 3; i++) {
+      h = Whole.mixed(h, 0, 1, i, 1 << i, 1, 0, 0, 1, 4, 7, i);
+    }
+    h = Whole.mixed(h, 0, 0);
+    h = Whole.mixed(h, 3, 1, 0, 0, 0, 0, 0, 1, 0);
+    promise.due("its owner is asked, not as for 1 or 3", h, Towns.of("p1,p1,p1;1").digest());
   }
 
   private static void wrapping(Promise promise) {
