@@ -36,8 +36,10 @@ public final class ModelTest {
           CHECK.due(run + ": letter", model.letter(text.charAt(i)), x.letter(text.charAt(i)));
         }
       }
-      oneCall(run, dice, model, x);
-      calls++;
+      if (calls < CALLS) {
+        oneCall(run, dice, model, x);
+        calls++;
+      }
     }
     CHECK.due(run + ": digest at last", model.digest(), x.digest());
   }

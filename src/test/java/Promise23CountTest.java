@@ -94,13 +94,13 @@ public final class Promise23CountTest {
   private static void towns(Promise promise) {
     promise.says("7 how often a TOWN was read");
     LentQuill x = new LentQuill();
-    for (int i = 0; i < 60; i++) {
+    for (int i = 0; i < 50; i++) {
       promise.due("towns", i, x.count(7));
       Towns.write(x, "p1,p1;1");
       x.town();
     }
     x.town();
-    promise.due("sixty", 60, x.count(7));
+    promise.due("fifty", 50, x.count(7));
   }
 
   private static void ways(Promise promise) {
