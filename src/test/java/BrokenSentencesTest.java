@@ -1,18 +1,11 @@
-import java.io.StringWriter;
 import java.lang.reflect.Constructor;
 import java.lang.reflect.InvocationTargetException;
 import java.lang.reflect.Method;
-import java.net.URI;
 import java.net.URL;
 import java.net.URLClassLoader;
 import java.nio.file.Files;
 import java.nio.file.Path;
-import java.util.List;
 import java.util.Set;
-import javax.tools.JavaCompiler;
-import javax.tools.JavaFileObject;
-import javax.tools.SimpleJavaFileObject;
-import javax.tools.ToolProvider;
 
 /**
  * Breaks the document's sentences one at a time in a copy of the class, as src/test/broken.txt says:
@@ -21,7 +14,6 @@ import javax.tools.ToolProvider;
 public final class BrokenSentencesTest {
   private static final Path CLASS = Path.of("src/main/java/LentQuill.java");
   private static final Path CHANGES = Path.of("src/test/broken.txt");
-  private static final JavaCompiler COMPILER = ToolProvider.getSystemJavaCompiler();
   private static final Check CHECK = new Check();
 
   public static void main(String[] args) throws Exception {
@@ -72,15 +64,7 @@ public final class BrokenSentencesTest {
   }
 
   private static boolean compiles(String text, Path out, String told) {
-    JavaFileObject file =
-        new SimpleJavaFileObject(URI.create("string:///LentQuill.java"), JavaFileObject.Kind.SOURCE) {
-          @Override
-          public CharSequence getCharContent(boolean ignoreEncodingErrors) {
-            return text;
-          }
-        };
-    boolean done = COMPILER.getTask(new StringWriter(), null, null,
-        List.of("-d", out.toString()), null, List.of(file)).call();
+    boolean done = new Source("LentQuill", text).compiledTo(out);
     return CHECK.due("compiles: " + told, 1, done ? 1 : 0);
   }
 
